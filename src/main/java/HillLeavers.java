@@ -41,8 +41,6 @@ public final class HillLeavers {
     private final Tape tape = new Tape();
     private final Reader reader = new Reader(tape);
     private Town town = new Town();
-    /** A text is read into this one, so that the CITY stays if it has a FAULT. */
-    private Town spare = new Town();
     private final State state = new State();
     /** For trying what would come: a copy of the state, changed freely. */
     private final State trial = new State();
@@ -82,14 +80,12 @@ public final class HillLeavers {
     }
 
     public int city() {
-        boolean read = reader.read(spare);
+        boolean read = reader.read();
         tape.length = 0;
         if (!read) {
             return NONE;
         }
-        Town old = town;
-        town = spare;
-        spare = old;
+        town = reader.swap(town);
         state.begin(town);
         acts.clear();
         sights.clear();
@@ -814,22 +810,18 @@ public final class HillLeavers {
             return (out >> man & 1) == 1;
         }
 
+        /** The days of who is in the city do not count: they begin as he leaves. */
         void walkOut(int set) {
-            startDays(set);
-            out |= set;
-        }
-
-        void goHome(int set) {
-            startDays(set);
-            out &= ~set;
-        }
-
-        private void startDays(int set) {
             for (int man = 0; man < MOST_MEN; man++) {
                 if ((set >> man & 1) == 1) {
                     days[man] = 0;
                 }
             }
+            out |= set;
+        }
+
+        void goHome(int set) {
+            out &= ~set;
         }
 
         void getLoaves(int man, int more) {
@@ -1170,8 +1162,10 @@ public final class HillLeavers {
             return kind == SIGN && byteAt(start) == sign;
         }
 
-        int signHere() {
-            return byteAt(start);
+        /** The sign that comes, if it is one of these, or 0. */
+        int signOneOf(String signs) {
+            int sign = byteAt(start);
+            return kind == SIGN && signs.indexOf((char) sign) >= 0 ? sign : 0;
         }
 
         private int byteAt(int place) {
@@ -1193,8 +1187,16 @@ public final class HillLeavers {
 
     /** Reads a CITY from the TAPE. Behind its first FAULT it goes on without doing anything. */
     private static final class Reader {
+        private static final int OR_LEVEL = 0;
+        private static final int AND_LEVEL = 1;
+        private static final int RELATION_LEVEL = 2;
+        private static final int SUM_LEVEL = 3;
+        private static final int TERM_LEVEL = 4;
+        private static final int UNIT_LEVEL = 5;
+
         private final Tape tape;
-        private Town town;
+        /** A text is read into this one, so that the CITY stays if it has a FAULT. */
+        private Town draft = new Town();
         int fault;
         int place = NONE;
         private final long[] craftNames = new long[MOST_CRAFTS];
@@ -1208,9 +1210,8 @@ public final class HillLeavers {
             this.tape = tape;
         }
 
-        boolean read(Town into) {
-            town = into;
-            town.clear();
+        boolean read() {
+            draft.clear();
             fault = 0;
             place = NONE;
             backTold = false;
@@ -1228,38 +1229,45 @@ public final class HillLeavers {
                 } else if (tape.wordIs("back") && !backTold) {
                     backTold = true;
                     tape.advance();
-                    readEither(0);
+                    readLevel(OR_LEVEL, 0);
                 } else if (tape.wordIs("foes") && !foesTold) {
                     foesTold = true;
-                    town.foes = numberBehind("foes", 100);
-                    town.raid = numberBehind("raid", 999);
+                    draft.foes = numberBehind("foes", 100);
+                    draft.raid = numberBehind("raid", 999);
                 } else if (tape.wordIs("draw") && !drawTold) {
                     drawTold = true;
-                    town.draw = numberBehind("draw", 999);
+                    draft.draw = numberBehind("draw", 999);
                 } else {
                     refuse(CANT_STAND);
                 }
                 expectSign(';');
             }
-            town.settle();
+            draft.settle();
             return fault == 0;
         }
 
+        /** What was read, against one that is not needed any more. */
+        Town swap(Town old) {
+            Town read = draft;
+            draft = old;
+            return read;
+        }
+
         private void readCraft() {
-            int craft = town.crafts;
+            int craft = draft.crafts;
             if (craft < 0 || craft >= MOST_CRAFTS) {
                 refuse(CANT_STAND);
                 return;
             }
             tape.advance();
             craftNames[craft] = newName(craftNames, craft);
-            town.needs[craft] = numberBehind("needs", 7);
-            town.harm[craft] = numberBehind("loss", 99);
-            town.crafts++;
+            draft.needs[craft] = numberBehind("needs", 7);
+            draft.harm[craft] = numberBehind("loss", 99);
+            draft.crafts++;
         }
 
         private void readMan() {
-            int man = town.men;
+            int man = draft.men;
             if (man < 0 || man >= MOST_MEN) {
                 refuse(CANT_STAND);
                 return;
@@ -1272,33 +1280,33 @@ public final class HillLeavers {
             for (int i = 0; i < MOST_CRAFTS && fault == 0 && tape.isName(); i++) {
                 crafts |= craftName(crafts);
             }
-            town.skills[man] = crafts;
-            town.loavesAtFirst[man] = numberBehind("loaves", 20);
-            town.debt[man] = numberBehind("debt", 99);
-            town.others[man] = tape.wordIs("others") ? numberBehind("others", 6) : 0;
+            draft.skills[man] = crafts;
+            draft.loavesAtFirst[man] = numberBehind("loaves", 20);
+            draft.debt[man] = numberBehind("debt", 99);
+            draft.others[man] = tape.wordIs("others") ? numberBehind("others", 6) : 0;
             if (tape.wordIs("out")) {
                 expectWord("out");
-                town.outAtFirst |= 1 << man;
+                draft.outAtFirst |= 1 << man;
             }
-            town.men++;
+            draft.men++;
         }
 
         private void readDemand() {
-            int demand = town.demands;
+            int demand = draft.demands;
             if (demand < 0 || demand >= MOST_DEMANDS) {
                 refuse(CANT_STAND);
                 return;
             }
             tape.advance();
             demandNames[demand] = newName(demandNames, demand);
-            town.cost[demand] = numberBehind("cost", 999);
-            town.worth[demand] = numberBehind("worth", 99);
-            town.demands++;
+            draft.cost[demand] = numberBehind("cost", 999);
+            draft.worth[demand] = numberBehind("worth", 99);
+            draft.demands++;
         }
 
         /** The CRAFT of the NAME that comes, as a bit, if it is none of these. */
         private int craftName(int told) {
-            int craft = placeOf(tape.word, craftNames, town.crafts);
+            int craft = placeOf(tape.word, craftNames, draft.crafts);
             if (!tape.isName()) {
                 refuse(CANT_STAND);
             } else if (craft == NONE) {
@@ -1374,69 +1382,46 @@ public final class HillLeavers {
             }
         }
 
-        private void readEither(int within) {
-            readBoth(within);
-            for (int i = 0; i < MOST_UNITS && fault == 0 && tape.wordIs("or"); i++) {
-                tape.advance();
-                readBoth(within);
-                town.formula.add(Formula.OR);
-            }
-        }
-
-        private void readBoth(int within) {
-            readOne(within);
-            for (int i = 0; i < MOST_UNITS && fault == 0 && tape.wordIs("and"); i++) {
-                tape.advance();
-                readOne(within);
-                town.formula.add(Formula.AND);
-            }
-        }
-
-        private void readOne(int within) {
-            if (tape.wordIs("not")) {
-                if (within > MOST_WITHIN) {
-                    refuse(CANT_STAND);
-                    return;
-                }
-                tape.advance();
-                readOne(within + 1);
-                town.formula.add(Formula.NOT);
+        /** What is joined by the ops of this level, or of one that binds more. */
+        private void readLevel(int level, int within) {
+            if (level >= UNIT_LEVEL) {
+                readUnit(within);
                 return;
             }
-            readSum(within);
-            if (fault == 0 && (tape.signIs('<') || tape.signIs('>') || tape.signIs('='))) {
-                int op = signAsOp();
-                readSum(within);
-                town.formula.add(op);
+            if (level == RELATION_LEVEL && tape.wordIs("not")) {
+                readNot(within);
+                return;
+            }
+            readLevel(level + 1, within);
+            int most = level == RELATION_LEVEL ? 1 : MOST_UNITS;
+            for (int i = 0; i < most && fault == 0 && opHere(level) != 0; i++) {
+                int op = opHere(level);
+                tape.advance();
+                readLevel(level + 1, within);
+                draft.formula.add(op);
             }
         }
 
-        private void readSum(int within) {
-            readTerm(within);
-            for (int i = 0; i < MOST_UNITS && fault == 0 && (tape.signIs('+') || tape.signIs('-')); i++) {
-                int op = signAsOp();
-                readTerm(within);
-                town.formula.add(op);
+        private void readNot(int within) {
+            if (within > MOST_WITHIN) {
+                refuse(CANT_STAND);
+                return;
             }
-        }
-
-        private void readTerm(int within) {
-            readUnit(within);
-            for (int i = 0; i < MOST_UNITS && fault == 0 && isTermSign(); i++) {
-                int op = signAsOp();
-                readUnit(within);
-                town.formula.add(op);
-            }
-        }
-
-        private boolean isTermSign() {
-            return tape.signIs('*') || tape.signIs('/') || tape.signIs('%');
-        }
-
-        private int signAsOp() {
-            int op = -tape.signHere();
             tape.advance();
-            return op;
+            readLevel(RELATION_LEVEL, within + 1);
+            draft.formula.add(Formula.NOT);
+        }
+
+        /** The op of this level that comes, or 0. */
+        private int opHere(int level) {
+            switch (level) {
+                case OR_LEVEL: return tape.wordIs("or") ? Formula.OR : 0;
+                case AND_LEVEL: return tape.wordIs("and") ? Formula.AND : 0;
+                case RELATION_LEVEL: return -tape.signOneOf("<>=");
+                case SUM_LEVEL: return -tape.signOneOf("+-");
+                case TERM_LEVEL: return -tape.signOneOf("*/%");
+                default: return 0;
+            }
         }
 
         private void readUnit(int within) {
@@ -1447,17 +1432,17 @@ public final class HillLeavers {
             int known = knownUnit();
             // 60 units in all can't be told: there is one e that no other holds, and it holds 30 at most.
             if (!opens && known == 0 && tape.kind != Tape.NUMBER
-                || opens && within > MOST_WITHIN || town.formula.units >= MOST_UNITS) {
+                || opens && within > MOST_WITHIN || draft.formula.units >= MOST_UNITS) {
                 refuse(CANT_STAND);
                 return;
             }
-            town.formula.units++;
+            draft.formula.units++;
             if (opens) {
                 tape.advance();
-                readEither(within + 1);
+                readLevel(OR_LEVEL, within + 1);
                 expectSign(')');
             } else {
-                town.formula.add(known != 0 ? known : tape.number);
+                draft.formula.add(known != 0 ? known : tape.number);
                 tape.advance();
             }
         }

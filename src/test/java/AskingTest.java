@@ -127,6 +127,10 @@ public final class AskingTest {
         DUE.is("nobody is there", x.idle(), 0);
         x.home(3);
         DUE.is("dan", x.idle(), 8);
+        HillLeavers camp = Due.with(CAMP);
+        DUE.is("all", camp.idle(), 7);
+        camp.leave(0);
+        DUE.is("who is there", camp.idle(), 6);
     }
 
     private static void dearest() {
@@ -183,6 +187,9 @@ public final class AskingTest {
         for (int no : NO_AHEADS) {
             DUE.is("hungry(" + no + ")", x.hungry(no), -1);
         }
+        x.give(0, 1);
+        DUE.is("fed, behind 1", x.hungry(1), 0);
+        DUE.is("fed, behind 2", x.hungry(2), 1);
         HillLeavers none = Due.with("craft a needs 0 loss 0;man p of a loaves 0 debt 0;man q of a loaves 0 debt 0 out;");
         DUE.is("out alone", none.hungry(0), 2);
         DUE.is("gone back", none.hungry(1), 0);
@@ -470,6 +477,13 @@ public final class AskingTest {
         DUE.is("until(4)", y.until(4), -1);
         y.day();
         DUE.is("a day later", y.until(1), 2);
+        y.day();
+        y.day();
+        DUE.is("the last day", y.until(3), 0);
+        y.day();
+        DUE.is("none any more", y.until(3), -1);
+        HillLeavers far = lone("demand a cost 10 worth 3;back days > 50;");
+        DUE.is("far ahead", far.until(3), 50);
     }
 
     private static void feeds() {
@@ -487,6 +501,10 @@ public final class AskingTest {
         DUE.is("not out", x.feeds(0, 1), -1);
         HillLeavers hill = Due.with(HILL);
         DUE.is("others are missing", hill.feeds(3, 1), -1);
+        DUE.is("in the city, though he would follow", hill.feeds(1, 1), -1);
+        HillLeavers camp = Due.with("craft a needs 0 loss 0;man p of a loaves 9 debt 0 others 1;"
+            + "man q of a loaves 9 debt 0 out;");
+        DUE.is("in the city, though he would follow", camp.feeds(0, 1), -1);
         HillLeavers never = lone("back 0;");
         DUE.is("he stays anyway", never.feeds(0, 60), 0);
         HillLeavers more = lone("back loaves > 3 or loaves = 0;");

@@ -95,6 +95,13 @@ public final class SeenTest {
         DUE.is("still 30", x.about(10), 30);
         DUE.is("seen", x.seen(0, true), -1);
         DUE.is("untell", x.untell(30), false);
+        HillLeavers y = Due.with(HILL);
+        for (int i = 0; i < 29; i++) {
+            y.seen(0, true);
+        }
+        DUE.is("all the same", y.fits(0), 8);
+        y.seen(1, true);
+        DUE.is("the thirtieth counts", y.fits(0), 4);
         Due.city(x, HILL);
         DUE.is("new city", x.about(10), 0);
         DUE.is("untell", x.untell(0), false);

@@ -151,6 +151,12 @@ public final class TellingTest {
         y.grant(1);
         y.grant(2);
         DUE.is("broken of no loss", y.broken(), 6);
+        HillLeavers z = Due.with("demand a cost 1 worth 1;demand b cost 1 worth 1;demand c cost 1 worth 1;"
+            + "demand d cost 1 worth 1;demand e cost 1 worth 1;");
+        for (int demand = 0; demand < 5; demand++) {
+            z.grant(demand);
+        }
+        DUE.is("all broken", z.broken(), 31);
     }
 
     private static void longest() {
@@ -455,6 +461,20 @@ public final class TellingTest {
         DUE.is("loaves", x.man(0, 1), 45);
         x.undo();
         DUE.is("loaves of the other", x.man(1, 1), 2);
+        HillLeavers y = Due.with(CAMP);
+        for (int i = 0; i < 150; i++) {
+            y.day();
+        }
+        for (int i = 1; i <= 40; i++) {
+            DUE.is("undo of 150", y.undo(), true);
+            DUE.is("day", y.about(3), 150 - i);
+        }
+        DUE.is("undo no more", y.undo(), false);
+        for (int i = 1; i <= 40; i++) {
+            DUE.is("redo", y.redo(), true);
+            DUE.is("day", y.about(3), 110 + i);
+        }
+        DUE.is("redo no more", y.redo(), false);
     }
 
     private static void boxes() {

@@ -11,6 +11,7 @@ public final class TextTest {
         feed();
         end();
         city();
+        oneAfterAnother();
         fault();
         tokens();
         lines();
@@ -154,6 +155,56 @@ public final class TextTest {
         DUE.is("nobody is out", x.out(), 0);
     }
 
+    /** Of the texts told before nothing is left: all answers are those of a fresh object. */
+    private static void oneAfterAnother() {
+        String full = "craft a needs 1 loss 9;craft b needs 1 loss 8;craft c needs 1 loss 7;craft d needs 1 loss 6;"
+            + "man p of a loaves 9 debt 9 others 1 out;man q of b loaves 9 debt 9 others 2 out;man r of c loaves 9 debt 9 out;"
+            + "man s of d loaves 9 debt 9 out;demand k cost 1 worth 9;demand l cost 2 worth 8;demand m cost 0 worth 7;"
+            + "foes 100 raid 77;draw 5;back 0;";
+        String small = "craft b needs 2 loss 5;man q of b loaves 1 debt 1 out;demand m cost 3 worth 1;";
+        String[] texts = {full, small, full, full, small, small, "", full, "draw 3;", "draw 4;", "foes 9 raid 1;", small,
+            "back days > 2;" + small, "back days > 3;" + small, small};
+        HillLeavers x = new HillLeavers();
+        for (int i = 0; i < texts.length; i++) {
+            HillLeavers fresh = new HillLeavers();
+            DUE.is("city " + i, Due.city(x, texts[i]), Due.city(fresh, texts[i]));
+            DUE.is("fault " + i, x.fault(0), 0);
+            for (int day = 0; day < 4; day++) {
+                alike("text " + i + " day " + day, x, fresh);
+                DUE.is("day", x.day(), fresh.day());
+            }
+            for (int demand = 0; demand < 5; demand++) {
+                DUE.is("grant", x.grant(demand), fresh.grant(demand));
+            }
+            for (int box = 0; box < 3; box++) {
+                DUE.is("box", x.back(box), -1);
+                x.image(box);
+            }
+        }
+    }
+
+    private static void alike(String where, HillLeavers x, HillLeavers fresh) {
+        for (int i = 0; i < 14; i++) {
+            DUE.is(where + " about " + i, x.about(i), fresh.about(i));
+        }
+        for (int i = 0; i < 7; i++) {
+            for (int what = 0; what < 7; what++) {
+                DUE.is(where + " man " + i + ", " + what, x.man(i, what), fresh.man(i, what));
+                DUE.is(where + " craft " + i + ", " + what, x.craft(i, what), fresh.craft(i, what));
+                DUE.is(where + " demand " + i + ", " + what, x.demand(i, what), fresh.demand(i, what));
+                DUE.is(where + " offer " + i + ", " + what, x.offer(i, what), fresh.offer(i, what));
+            }
+            DUE.is(where + " will " + i, x.will(i), fresh.will(i));
+            DUE.is(where + " hungry " + i, x.hungry(i), fresh.hungry(i));
+            DUE.is(where + " costs " + i, x.costs(i), fresh.costs(i));
+            DUE.is(where + " spread " + i, x.spread(i), fresh.spread(i));
+            DUE.is(where + " stop " + i, x.stop(i, 1), fresh.stop(i, 1));
+            DUE.is(where + " weight " + i, x.weight(i, 0), fresh.weight(i, 0));
+        }
+        DUE.is(where + " until", x.until(5), fresh.until(5));
+        DUE.is(where + " loss", x.loss(1), fresh.loss(1));
+    }
+
     private static void fault() {
         HillLeavers x = new HillLeavers();
         Due.city(x, "draw 1000;");
@@ -248,6 +299,11 @@ public final class TextTest {
         faulty("draw ^x;", 2);
         sound(CRAFT + "man x of a loaves 20 debt 99 others 6 out;man a of a loaves 0 debt 0 others 0;", 2);
         sound(MAN + "demand x cost 999 worth 99;demand a cost 0 worth 0;", 1);
+        sound("craft a needs 1 loss 1;craft aa needs 1 loss 1;craft ba needs 1 loss 1;craft ab needs 1 loss 1;"
+            + "man z of a aa ba ab loaves 1 debt 1;man zz of ab loaves 1 debt 1;man zzzzzzzz of a loaves 1 debt 1;"
+            + "man zzzzzzz of a loaves 1 debt 1;", 4);
+        faulty("craft aa needs 1 loss 1;man x of ^a loaves 1 debt 1;", 5);
+        faulty("craft azzzzzzz needs 1 loss 1;man x of ^zzzzzzz loaves 1 debt 1;", 5);
         sound("foes 100 raid 999;draw 999;", 0);
         sound("foes 0 raid 0;draw 0;", 0);
         for (String word : OWN_WORDS.split(" ")) {
@@ -346,6 +402,11 @@ public final class TextTest {
         // 30 units with seven nots ahead of each
         String nots = "not ".repeat(7) + "1";
         sound("back " + nots + (" or " + nots).repeat(29) + ";", 0);
+        for (String sign : "or and + - * / %".split(" ")) {
+            sound("back 1" + (" " + sign + " 1").repeat(29) + ";", 0);
+            faulty("back 1" + (" " + sign + " 1").repeat(29) + " " + sign + " ^1;", 2);
+            faulty("back (1" + (" " + sign + " 1").repeat(28) + " " + sign + " ^1);", 2);
+        }
         HillLeavers x = Due.with("back (1 + 2) * loaves < 3;");
         DUE.is("units", x.about(13), 5);
         DUE.is("units of 30", Due.with("back " + thirty + ";").about(13), 30);
@@ -400,6 +461,13 @@ public final class TextTest {
         valueIs("(not 0)", "1");
         valueIs("(not not 7)", "1");
         valueIs("(7)", "7");
+        // x is 1 - 2 * (x), seven times from 1 on: -1, 3, -5, 11, -21, 43, -85
+        String deep = "1 - 2 * (".repeat(7) + "1" + ")".repeat(7);
+        backIs(deep + " = 0 - 85", 1);
+        backIs(deep + " = 85", 0);
+        // five of each before the one inside
+        String wide = "0 or 1 and 2 < 3 + 2 * (".repeat(4) + "0 or 1 and 2 < 0" + ")".repeat(4);
+        backIs(wide, 1);
         backIs("7", 1);
         backIs("0", 0);
         backIs("0 - 1", 1);
