@@ -62,6 +62,7 @@ public final class AskingTest {
 
     private static void spark() {
         HillLeavers x = Due.with(HILL);
+        x.plan(60, 0);
         DUE.is("spark(0)", x.spark(0), 1);
         DUE.is("spark(1)", x.spark(1), 1);
         for (int no : NO_PARTS) {
@@ -218,6 +219,7 @@ public final class AskingTest {
 
     private static void plan() {
         HillLeavers x = Due.with(HILL);
+        DUE.is("as much or more in 60 days", x.plan(60, 0) >= 67, true);
         DUE.is("plan(1, 0)", x.plan(1, 0), 67);
         DUE.is("plan(1, 1)", x.plan(1, 1), 1);
         for (int no : NO_COUNTS) {

@@ -162,7 +162,8 @@ public final class TextTest {
             + "man s of d loaves 9 debt 9 out;demand k cost 1 worth 9;demand l cost 2 worth 8;demand m cost 0 worth 7;"
             + "foes 100 raid 77;draw 5;back 0;";
         String small = "craft b needs 2 loss 5;man q of b loaves 1 debt 1 out;demand m cost 3 worth 1;";
-        String[] texts = {full, small, full, full, small, small, "", full, "draw 3;", "draw 4;", "foes 9 raid 1;", small,
+        String twins = "craft e needs 2 loss 5;craft f needs 1 loss 5;man x of e loaves 1 debt 1;man y of f e loaves 1 debt 1 out;";
+        String[] texts = {full, twins, small, full, twins, full, small, small, "", full, "draw 3;", "draw 4;", "foes 9 raid 1;", small,
             "back days > 2;" + small, "back days > 3;" + small, small};
         HillLeavers x = new HillLeavers();
         for (int i = 0; i < texts.length; i++) {
