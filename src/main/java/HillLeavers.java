@@ -485,9 +485,11 @@ public final class HillLeavers {
     public int weakest() {
         outlook.look(town, state, MOST_AHEAD);
         for (int days = 1; days <= MOST_AHEAD; days++) {
-            int gone = state.out & ~outlook.outBehind(days);
-            if (gone != 0) {
-                return Integer.numberOfTrailingZeros(gone);
+            int back = state.out & ~outlook.outBehind(days);
+            for (int man = 0; man < MOST_MEN; man++) {
+                if ((back >> man & 1) == 1) {
+                    return man;
+                }
             }
         }
         return NONE;
